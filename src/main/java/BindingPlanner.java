@@ -34,7 +34,6 @@ public final class BindingPlanner {
 
     private static final int BOARD = 0;
     private static final int PAPER = 1;
-    private static final int CLOTH = 2;
     private static final int MATERIALS = 3;
 
     private static final int SHEET_LENGTH = 0;
@@ -985,11 +984,9 @@ public final class BindingPlanner {
             int all = (1 << count) - 1;
             breadthSums[0] = 0;
             leastLengths[0] = 0;
-            for (int places = 1; places <= all; places++) {
-                breadthSums[places] = breadthSums[places & (places - 1)] + breadths[longestOf(places)];
-            }
-            // The strip that is taken first holds the longest cloth, place 0: what it leaves are even sets.
+            // The strip that is taken first holds the longest cloth, place 0: it takes and leaves only even sets.
             for (int places = 2; places < all; places += 2) {
+                breadthSums[places] = breadthSums[places & (places - 1)] + breadths[longestOf(places)];
                 leastLengths[places] = leastLengthOf(places);
             }
             return leastLengthOf(all);

@@ -470,7 +470,23 @@ public final class PromiseTest {
         Checks.thrown("19: book -32 is not book 0", MISSING, () -> x.strip(15, -32));
         Checks.thrown("19: set before book", ARGUMENT, () -> x.strip(31, 9));
         refusesSets(x, books -> x.strip(books, 2), "19");
+        longestComesLast();
         equalLengths();
+    }
+
+    /** The cloths of withCloths in the opposite order. */
+    private static void longestComesLast() {
+        BindingPlanner x = new BindingPlanner();
+        x.addBook(100, 300, 60);
+        x.addBook(380, 220, 20);
+        x.addBook(390, 120, 20);
+        x.addBook(400, 220, 20);
+        int[] due = {2, 1, 0, 0};
+        for (int book = 0; book < 4; book++) {
+            Checks.is("19: strip of book " + book + " in the opposite order", due[book], x.strip(15, book));
+        }
+        Checks.is("17: opposite order", 862, x.leastCloth(15));
+        Checks.is("18: opposite order", 988, x.fittedCloth(15));
     }
 
     /** Cloths 600, 500 and 400 broad and equally long, which go in by the number of the book. */
@@ -584,7 +600,7 @@ public final class PromiseTest {
         BindingPlanner x = new BindingPlanner();
         x.setPrice(0, 5, 80);
         x.setPrice(0, 10, 100);
-        x.setPrice(1, 5, 20);
+        x.setPrice(1, 6, 20);
         Checks.is("26: dropped", 80, x.dropPrice(0, 5));
         Checks.is("26: two are kept", 2, x.account(7));
         Checks.thrown("26: again", MISSING, () -> x.dropPrice(0, 5));
@@ -593,9 +609,11 @@ public final class PromiseTest {
         Checks.thrown("26: material 3", INDEX, () -> x.dropPrice(3, 5));
         Checks.thrown("26: material -1", INDEX, () -> x.dropPrice(-1, 5));
         Checks.is("26: later one stays", 100, x.price(0, 10));
-        Checks.is("26: other material stays", 20, x.price(1, 5));
+        Checks.is("26: other material stays", 20, x.price(1, 6));
+        Checks.thrown("26: and its day", MISSING, () -> x.price(1, 5));
         Checks.is("26: four changes", 3, x.undo());
-        Checks.is("26: brought back", 80, x.price(0, 9));
+        Checks.is("26: brought back", 80, x.price(0, 5));
+        Checks.thrown("26: brought back with its day", MISSING, () -> x.price(1, 5));
     }
 
     private static void price() {
@@ -809,7 +827,8 @@ public final class PromiseTest {
             {"80xx", 3}, {"80x60", 5}, {"80x6000", 6}, {"80x60x", 6}, {"80x60x0", 6}, {"80x60x5x", 7},
             {"80x60x5*", 8}, {"80x60x5*0", 8}, {"80x60x5*100", 10}, {"80x60x5*1 ", 9}, {"80x60x5 ", 7}, {" 80", 0},
             {"80*", 2}, {"80x60*", 5}, {"80x60x5000", 9}, {"-80x60x5", 0}, {"80X60x5", 2}, {"80x60x5*x", 8},
-            {"80/60", 2}, {"80:60", 2}};
+            {"80/60", 2}, {"80:60", 2}, {"8001x60x5", 3}, {"80x6001x5", 6},
+            {"80x60x5001", 9}, {"80x60x5*123", 10}};
         for (Object[] d : due) {
             BindingPlanner x = new BindingPlanner();
             type(x, (String) d[0]);
@@ -858,13 +877,13 @@ public final class PromiseTest {
         Checks.Call[] changes = {() -> x.addBook(90, 90, 9), () -> x.setBlock(0, 0, 300), () -> x.set(0, 5),
             () -> x.setSheet(1, 500, 500, 2), () -> x.buy(1, 3, 3), () -> x.setPrice(1, 5, 5),
             () -> x.setPrice(0, 5, 10), () -> x.dropPrice(0, 5), () -> x.make(0), () -> x.pass(3), x::readBook};
-        String before = state(x);
         for (int change = 0; change < changes.length; change++) {
+            x.pass(1);
+            String before = state(x);
             changes[change].run();
             Checks.same("36: changed by " + change, false, before.equals(state(x)));
             Checks.is("36: eight kept", 7, x.undo());
             Checks.same("36: brought back after " + change, before, state(x));
-            x.set(4, 1000);
         }
     }
 
