@@ -5,8 +5,18 @@ final class Checks {
     private static final int MOST_TOLD = 50;
     private static int checked = 0;
     private static int wrong = 0;
+    private static String place = "";
 
     private Checks() {
+    }
+
+    /** What all checks from now on are told with. */
+    static void begin(String newPlace) {
+        place = newPlace;
+    }
+
+    static int count() {
+        return checked;
     }
 
     interface Call {
@@ -18,7 +28,7 @@ final class Checks {
         if (!due.equals(got)) {
             wrong++;
             if (wrong <= MOST_TOLD) {
-                System.out.println(what + ": due is " + due + ", got " + got);
+                System.out.println(place + what + ": due is " + due + ", got " + got);
             }
         }
     }
