@@ -18,15 +18,15 @@ import java.util.regex.Pattern;
 public final class FaceTest {
     public static void main(String[] args) throws IOException {
         checkFace();
+        checkSections();
         checkMembers();
         checkSource();
         Checks.finish();
     }
 
-    private static void checkFace() throws IOException {
-        String doc = Files.readString(Path.of("../shared/DOC.md"));
+    private static void checkFace() {
         Set<String> due = new TreeSet<>();
-        Matcher line = Pattern.compile("(?m)^    public (.*);$").matcher(doc);
+        Matcher line = Pattern.compile("(?m)^    public (.*);$").matcher(Document.text());
         while (line.find()) {
             due.add(line.group(1).replaceAll("\\b(int|char|boolean) \\w+(?=[,)])", "$1"));
         }
@@ -43,6 +43,18 @@ public final class FaceTest {
         Checks.same("the face", due, got);
         Checks.same("public final", true, Modifier.isPublic(BindingPlanner.class.getModifiers())
                 && Modifier.isFinal(BindingPlanner.class.getModifiers()));
+    }
+
+    /** All that the tests of sentences know of: another section would have no test. */
+    private static void checkSections() {
+        List<String> due = new ArrayList<>(List.of("What it is", "Books", "Settings", "Pieces", "Materials", "Grain",
+            "Stations", "Cloth", "Lots", "Prices", "Making", "Texts", "Changes", "In doubt", "Exceptions",
+            "In doubt, too", "Description"));
+        for (int promise = 1; promise <= 38; promise++) {
+            due.add("Promise " + promise);
+        }
+        due.add("Not promised");
+        Checks.same("sections of the document", due, new ArrayList<>(Document.sections().keySet()));
     }
 
     private static String signature(String name, Executable executable) {
