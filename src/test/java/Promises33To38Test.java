@@ -217,6 +217,37 @@ public final class Promises33To38Test {
         Checks.is("the first lot", 1, x.lot(0, 0, false));
     }
 
+    @Sentence(in = "Promise 36", says = "Undoes the latest change that is kept.")
+    static void pricesAndLotsOfOtherMaterialsComeBack() {
+        BindingPlanner x = Planners.withBook();
+        x.setPrice(0, 5, 80);
+        x.setPrice(1, 6, 20);
+        x.buy(1, 1, 30);
+        x.buy(0, 2, 40);
+        x.buy(2, 3, 50);
+        x.save();
+        for (int time = 0; time < 2; time++) {
+            x.dropPrice(0, 5);
+            x.make(0);
+            x.buy(2, 9, 60);
+            if (time == 0) {
+                x.undo();
+                x.undo();
+                x.undo();
+            } else {
+                x.restore();
+            }
+            Checks.is("price of board", 80, x.price(0, 5));
+            Checks.is("price of paper", 20, x.price(1, 6));
+            Checks.thrown("no price of paper a day before", Refusals.MISSING, () -> x.price(1, 5));
+            for (int each = 0; each < 3; each++) {
+                int material = each;
+                Checks.is("price of the lot", new int[] {40, 30, 50}[material], x.lot(material, 0, true));
+                Checks.thrown("no other lot", Refusals.MISSING, () -> x.lot(material, 1, true));
+            }
+        }
+    }
+
     @Sentence(in = "Promise 36", says = "Returns the number of changes that can still be undone.")
     static void stillUndoneFrom7To0() {
         for (int changes = 1; changes <= 10; changes++) {
