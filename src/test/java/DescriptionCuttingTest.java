@@ -1,21 +1,51 @@
 import java.util.List;
 import java.util.function.BiFunction;
 
-/** Each sentence of "What it is" and of the first half of "Description", Books to Cloth, that names a boundary case. */
+/** Each sentence of "What it is" and of the first half of "Description", Books to Cloth. */
 public final class DescriptionCuttingTest {
     public static void main(String[] args) {
         Sentences.ofSections(DescriptionCuttingTest.class, List.of("What it is", "Books", "Settings", "Pieces",
             "Materials", "Grain", "Stations", "Cloth", "Description", "Not promised"),
-            "A planner for binding books: sizes of boards, cloth and papers that follow from the blocks by rules, grain "
-                + "directions and how many pieces a sheet gives, sewing stations, cloth that is cut from a roll with "
-                + "the least length, lots of sheets that are used up the oldest first, price lists by days, orders "
-                + "with reasons for what is refused, a text format for blocks, accounts, and undo.",
+            "what later calls answer is free.",
             "The constructor and the methods follow, a promise each: the signature, then what it does.",
             "How the state is held inside the object is free, as are the speed of each call, the text of toString and "
                 + "the behaviour of equals and hashCode.",
             "Use of one object from several threads at once is not promised to be safe.",
             "Nothing is promised beyond the answers and state changes described above, and nothing about an object "
                 + "after its 512th call.");
+    }
+
+    @Sentence(in = "What it is", says = "A planner for binding books: sizes of boards, cloth and papers that follow from "
+        + "the blocks by rules, grain directions and how many pieces a sheet gives, sewing stations, cloth that is cut "
+        + "from a roll with the least length, lots of sheets that are used up the oldest first, price lists by days, "
+        + "orders with reasons for what is refused, a text format for blocks, accounts, and undo.")
+    static void allThatAPlannerDoes() {
+        BindingPlanner x = new BindingPlanner();
+        Planners.type(x, "200x140x20*10");
+        Checks.is("text of a block", 0, x.readBook());
+        Checks.is("board", 135, x.piece(0, 0, true));
+        Checks.is("cloth", 340, x.piece(0, 3, true));
+        Checks.is("paper", 280, x.piece(0, 4, true));
+        Checks.is("boards of a sheet", 20, x.perSheet(0, 0));
+        x.setSheet(0, 1000, 700, 2);
+        Checks.is("boards across it", 21, x.perSheet(0, 0));
+        Checks.is("sewing stations", 47, x.station(0, 1));
+        x.addBook(200, 140, 20);
+        x.addBook(300, 220, 20);
+        Checks.is("least length of cloth", 336 + 236, x.leastCloth(7));
+        Checks.thrown("an order", Refusals.UNSUPPORTED, () -> x.make(0));
+        Checks.is("refused for board", 3, x.refusal());
+        x.setPrice(0, 3, 5);
+        Checks.is("price list", 5, x.price(0, 4));
+        x.buy(0, 1, 100);
+        x.buy(0, 3, 90);
+        x.buy(1, 5, 10);
+        x.buy(2, 30, 2);
+        Checks.is("made", 100 + 90 + 2 * 10 + 24 * 2, x.make(0));
+        Checks.is("the oldest lot went", 90, x.lot(0, 0, true));
+        Checks.is("copies made", 10, x.account(2));
+        Checks.is("changes that can be undone", 7, x.undo());
+        Checks.is("no copies made", 0, x.account(2));
     }
 
     @Sentence(in = "What it is", says = "An object is used for at most 512 calls after it has been made")
@@ -56,6 +86,28 @@ public final class DescriptionCuttingTest {
         Checks.thrown("no book 10", Refusals.INDEX, () -> x.block(10, 0));
         Checks.thrown("no book -1", Refusals.INDEX, () -> x.block(-1, 0));
         Checks.is("ten", 10, x.account(1));
+    }
+
+    @Sentence(in = "Books", says = "A book has a block with a height from 80 to 400, a width from 60 to 300 and a "
+        + "thickness from 5 to 80, all lengths being whole millimetres")
+    static void aMillimetreMakesAnotherBlock() {
+        BindingPlanner x = new BindingPlanner();
+        x.addBook(399, 299, 79);
+        x.addBook(400, 300, 80);
+        Planners.type(x, "81x61x6");
+        x.readBook();
+        int[][] due = {{399, 299, 79, 405, 294, 598}, {400, 300, 80, 406, 295, 600}, {81, 61, 6, 87, 56, 122}};
+        for (int book = 0; book < 3; book++) {
+            for (int what = 0; what < 3; what++) {
+                Checks.is("number " + what, due[book][what], x.block(book, what));
+            }
+            Checks.is("length of a board", due[book][3], x.piece(book, 0, false));
+            Checks.is("breadth of a board", due[book][4], x.piece(book, 0, true));
+            Checks.is("breadth of an endpaper", due[book][5], x.piece(book, 4, true));
+        }
+        Planners.type(x, "81.5x61x6");
+        Checks.thrown("half a millimetre", Refusals.ARGUMENT, x::readBook);
+        Checks.is("cannot be told", 2, x.faultPosition());
     }
 
     /** The number, of a block that is else 100 x 100 x 10, in addBook, setBlock and readBook. */
@@ -301,7 +353,8 @@ public final class DescriptionCuttingTest {
         Checks.is("cloth does not come from sheets", 3, x.needed(0, 2));
     }
 
-    @Sentence(in = "Materials", says = "which have a length and a breadth, each 100 to 1200, at first 1000 and 700")
+    @Sentence(in = "Materials", says = "Board and paper come in sheets, which have a length and a breadth, each 100 "
+        + "to 1200, at first 1000 and 700")
     static void sheetsFrom100To1200() {
         BindingPlanner x = new BindingPlanner();
         for (int each = 0; each < 2; each++) {
@@ -362,6 +415,20 @@ public final class DescriptionCuttingTest {
         Checks.is("paper across the grain", 0, x.perSheet(0, 4));
         x.setSheet(1, 280, 200, 0);
         Checks.is("paper without a grain", 1, x.perSheet(0, 4));
+    }
+
+    @Sentence(in = "Grain", says = "The yield of a sheet for a piece is how many such pieces can be laid side by side in "
+        + "rows and columns, all in the same direction")
+    static void piecesAreNotTurnedBesideOthers() {
+        yieldOfBoards(341, 270, 2, 2, 2);
+        yieldOfBoards(206, 340, 2, 2, 1);
+        yieldOfBoards(617, 404, 4, 4, 4);
+        yieldOfBoards(618, 405, 9, 9, 4);
+        BindingPlanner x = Planners.withBook();
+        x.setSheet(1, 480, 280, 0);
+        Checks.is("an endpaper beside another one, and none turned", 2, x.perSheet(0, 4));
+        x.setSheet(1, 480, 480, 0);
+        Checks.is("a square that four endpapers would fill round a hole", 2, x.perSheet(0, 4));
     }
 
     @Sentence(in = "Grain", says = "the length of the sheet divided by that side of the piece that runs along it, "
@@ -466,6 +533,22 @@ public final class DescriptionCuttingTest {
         Checks.is("the last book alone", 236, x.leastCloth(512));
         Checks.is("all books, two in a strip", 5 * 236, x.leastCloth(1023));
         Checks.thrown("no 11th book", Refusals.ARGUMENT, () -> x.leastCloth(1024));
+    }
+
+    @Sentence(in = "Cloth", says = "they are put into strips across the roll")
+    static void clothsAreNotTurnedInTheirStrips() {
+        BindingPlanner x = new BindingPlanner();
+        x.set(4, 720);
+        x.addBook(80, 300, 80);
+        x.addBook(400, 60, 5);
+        Checks.is("breadth of the first cloth", 720, x.piece(0, 3, true));
+        Checks.is("a strip of its own", 116, x.leastCloth(1));
+        Checks.is("nothing beside it", 116 + 436, x.leastCloth(3));
+        Checks.is("two strips", 2, x.strips(3));
+        Checks.is("the longest first", 0, x.strip(3, 1));
+        x.set(4, 720 + 165);
+        Checks.is("both side by side", 436, x.leastCloth(3));
+        Checks.is("one strip", 1, x.strips(3));
     }
 
     @Sentence(in = "Cloth", says = "the breadths of the cloths of a strip add up to at most the width of the roll")

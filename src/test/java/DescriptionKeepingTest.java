@@ -1,7 +1,7 @@
 import java.util.List;
 import java.util.function.Consumer;
 
-/** Each sentence of the second half of "Description", Lots to "In doubt, too", that names a boundary case. */
+/** Each sentence of the second half of "Description", Lots to "In doubt, too". */
 public final class DescriptionKeepingTest {
     public static void main(String[] args) {
         Sentences.ofSections(DescriptionKeepingTest.class, List.of("Lots", "Prices", "Making", "Texts", "Changes",
@@ -9,6 +9,22 @@ public final class DescriptionKeepingTest {
     }
 
     // Lots
+
+    @Sentence(in = "Lots", says = "A lot has a material, a number of units, 1 to 999, and a price for a unit, 1 to 9999")
+    static void lotsOfAllMaterialsApart() {
+        BindingPlanner x = new BindingPlanner();
+        x.buy(2, 999, 1);
+        x.buy(0, 1, 9999);
+        x.buy(1, 500, 5000);
+        int[][] due = {{1, 9999}, {500, 5000}, {999, 1}};
+        for (int each = 0; each < 3; each++) {
+            int material = each;
+            Checks.is("units of " + material, due[material][0], x.lot(material, 0, false));
+            Checks.is("price of " + material, due[material][1], x.lot(material, 0, true));
+            Checks.thrown("no second lot of " + material, Refusals.MISSING, () -> x.lot(material, 1, true));
+        }
+        Checks.thrown("no lot without a material", Refusals.INDEX, () -> x.buy(3, 1, 1));
+    }
 
     @Sentence(in = "Lots", says = "a number of units, 1 to 999")
     static void unitsFrom1To999() {
@@ -321,8 +337,8 @@ public final class DescriptionKeepingTest {
         hasFault(text, -1);
     }
 
-    @Sentence(in = "Texts", says = "three numbers with \"x\" between them: height, width and thickness, each with 1 to "
-        + "3 digits of which the first one is not 0")
+    @Sentence(in = "Texts", says = "A text of a block consists of three numbers with \"x\" between them: height, width "
+        + "and thickness, each with 1 to 3 digits of which the first one is not 0")
     static void threeNumbersOf1To3Digits() {
         reads("80x60x5", 80, 60, 5, 1);
         reads("400x300x80", 400, 300, 80, 1);
@@ -359,7 +375,8 @@ public final class DescriptionKeepingTest {
         hasFault("80x60*1", 5);
     }
 
-    @Sentence(in = "Texts", says = "the index of its first character that cannot continue such a text")
+    @Sentence(in = "Texts", says = "The fault position of a text is the index of its first character that cannot continue "
+        + "such a text")
     static void faultAtEachCharacter() {
         String text = "100x100x100*10";
         for (int fault = 0; fault < text.length(); fault++) {

@@ -1,26 +1,22 @@
-import java.io.IOException;
 import java.lang.reflect.Constructor;
 import java.lang.reflect.Executable;
 import java.lang.reflect.Field;
 import java.lang.reflect.Method;
 import java.lang.reflect.Modifier;
-import java.nio.file.Files;
-import java.nio.file.Path;
 import java.util.ArrayList;
-import java.util.HashSet;
 import java.util.List;
 import java.util.Set;
 import java.util.TreeSet;
 import java.util.regex.Matcher;
 import java.util.regex.Pattern;
 
-/** The public face stands as in the document, and the source keeps to what LANGUAGE.md lets a glance see. */
+/** "The public face" of the document, and nothing beside it; the promises are told by the same signatures. */
 public final class FaceTest {
-    public static void main(String[] args) throws IOException {
+    public static void main(String[] args) {
         checkFace();
+        checkPromises();
         checkSections();
         checkMembers();
-        checkSource();
         Checks.finish();
     }
 
@@ -43,6 +39,20 @@ public final class FaceTest {
         Checks.same("the face", due, got);
         Checks.same("public final", true, Modifier.isPublic(BindingPlanner.class.getModifiers())
                 && Modifier.isFinal(BindingPlanner.class.getModifiers()));
+    }
+
+    /** "The constructor and the methods follow, a promise each: the signature, then what it does." */
+    private static void checkPromises() {
+        Matcher face = Pattern.compile("(?m)^    public (.*);$").matcher(Document.text());
+        Matcher promise = Pattern.compile("(?m)^## Promise (\\d+): (.*)\n\n`(.*)`\n").matcher(Document.text());
+        for (int number = 1; number <= 38; number++) {
+            Checks.same("a line of the face, and promise " + number, true, face.find() && promise.find());
+            Checks.is("number of the promise", number, Integer.parseInt(promise.group(1)));
+            Checks.same("signature of promise " + number, face.group(1), promise.group(3));
+            String name = promise.group(3).replaceFirst("^(?:\\w+ )?(\\w+)\\(.*", "$1");
+            Checks.same("name of promise " + number, promise.group(2), number == 1 ? "A new object" : name);
+        }
+        Checks.same("nothing behind the last one", false, face.find() || promise.find());
     }
 
     /** All that the tests of sentences know of: another section would have no test. */
@@ -70,59 +80,20 @@ public final class FaceTest {
         return name + "(" + String.join(", ", types) + ")" + throwing;
     }
 
+    /** The class has no member beside its face but private ones and classes inside. */
     private static void checkMembers() {
-        Set<String> publicNames = new HashSet<>();
         for (Method method : BindingPlanner.class.getDeclaredMethods()) {
-            if (Modifier.isPublic(method.getModifiers())) {
-                publicNames.add(method.getName());
-            } else {
-                Checks.same(method + " is private", true, Modifier.isPrivate(method.getModifiers()));
-            }
+            boolean isShown = Modifier.isPublic(method.getModifiers()) || Modifier.isPrivate(method.getModifiers());
+            Checks.same(method + " is public or private", true, isShown || method.isSynthetic());
         }
-        List<Class<?>> classes = new ArrayList<>(List.of(BindingPlanner.class.getDeclaredClasses()));
-        for (Class<?> inside : classes) {
-            Checks.same(inside + " is static", true, Modifier.isStatic(inside.getModifiers()));
-            Checks.same(inside + " is not public", false, Modifier.isPublic(inside.getModifiers()));
+        for (Field field : BindingPlanner.class.getDeclaredFields()) {
+            boolean isPrivate = Modifier.isPrivate(field.getModifiers());
+            Checks.same(field + " is private", true, isPrivate || field.isSynthetic());
         }
-        classes.add(BindingPlanner.class);
-        Checks.same("at most twelve classes", true, classes.size() <= 12);
-        for (Class<?> owner : classes) {
-            checkFields(owner);
-            for (Method method : owner.getDeclaredMethods()) {
-                Checks.same(method + " has at most 7 parameters", true, method.getParameterCount() <= 7);
-                boolean isOfFace = owner == BindingPlanner.class && Modifier.isPublic(method.getModifiers());
-                Checks.same(method + " has a name of its own", true,
-                        isOfFace || !publicNames.contains(method.getName()));
-            }
+        for (Class<?> inside : BindingPlanner.class.getDeclaredClasses()) {
+            boolean isHidden = !Modifier.isPublic(inside.getModifiers()) && !Modifier.isProtected(inside.getModifiers());
+            Checks.same(inside + " is private or package-visible", true, isHidden);
         }
-    }
-
-    private static void checkFields(Class<?> owner) {
-        int fields = 0;
-        for (Field field : owner.getDeclaredFields()) {
-            if (Modifier.isStatic(field.getModifiers())) {
-                Checks.same(field + " is final", true, Modifier.isFinal(field.getModifiers()));
-            } else {
-                fields++;
-            }
-            if (owner == BindingPlanner.class) {
-                Checks.same(field + " is private", true, Modifier.isPrivate(field.getModifiers()));
-            }
-        }
-        Checks.same(owner + " has at most 20 fields", true, fields <= 20);
-    }
-
-    private static void checkSource() throws IOException {
-        String source = Files.readString(Path.of("src/main/java/BindingPlanner.java"));
-        Matcher imported = Pattern.compile("(?m)^import (.*);$").matcher(source);
-        while (imported.find()) {
-            Checks.same("import", "java.util.NoSuchElementException", imported.group(1));
-        }
-        Checks.same("signs 1 to 127 alone", true, source.chars().allMatch(sign -> sign >= 1 && sign <= 127));
-        String[] ruledOut = {"(?m)^package", "->", "::", "\\bcatch\\b", "\\bfinally\\b", "\\bsynchronized\\b",
-            "\\bassert\\b", "Exact\\(", "\\bclock|Random|Thread|System\\.(?!arraycopy)"};
-        for (String pattern : ruledOut) {
-            Checks.same("source has " + pattern, false, Pattern.compile(pattern).matcher(source).find());
-        }
+        Checks.is("constructors", 1, BindingPlanner.class.getDeclaredConstructors().length);
     }
 }

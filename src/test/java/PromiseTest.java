@@ -1,4 +1,6 @@
+import java.util.List;
 import java.util.NoSuchElementException;
+import java.util.function.Consumer;
 
 /** Every promise of the document, with answers worked out by hand. */
 public final class PromiseTest {
@@ -871,16 +873,16 @@ public final class PromiseTest {
     }
 
     private static void undoOfEachChange() {
-        BindingPlanner x = withStock();
-        x.setPrice(0, 5, 9);
-        type(x, "100x100x10");
-        Checks.Call[] changes = {() -> x.addBook(90, 90, 9), () -> x.setBlock(0, 0, 300), () -> x.set(0, 5),
-            () -> x.setSheet(1, 500, 500, 2), () -> x.buy(1, 3, 3), () -> x.setPrice(1, 5, 5),
-            () -> x.setPrice(0, 5, 10), () -> x.dropPrice(0, 5), () -> x.make(0), () -> x.pass(3), x::readBook};
-        for (int change = 0; change < changes.length; change++) {
+        List<Consumer<BindingPlanner>> changes = List.of(x -> x.addBook(90, 90, 9), x -> x.setBlock(0, 0, 300),
+            x -> x.set(0, 5), x -> x.setSheet(1, 500, 500, 2), x -> x.buy(1, 3, 3), x -> x.setPrice(1, 5, 5),
+            x -> x.setPrice(0, 5, 10), x -> x.dropPrice(0, 5), x -> x.make(0), x -> x.pass(3), BindingPlanner::readBook);
+        for (int change = 0; change < changes.size(); change++) {
+            BindingPlanner x = withStock();
+            x.setPrice(0, 5, 9);
+            type(x, "100x100x10");
             x.pass(1);
             String before = state(x);
-            changes[change].run();
+            changes.get(change).accept(x);
             Checks.same("36: changed by " + change, false, before.equals(state(x)));
             Checks.is("36: eight kept", 7, x.undo());
             Checks.same("36: brought back after " + change, before, state(x));

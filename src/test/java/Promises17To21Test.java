@@ -1,16 +1,24 @@
 import java.util.function.BiFunction;
 
-/** Each sentence of the promises 17 to 21 (cloth) that names a boundary case. */
+/** Each sentence of the promises 17 to 21 (cloth). */
 public final class Promises17To21Test {
     private static final String NO_BOOK = "Throws `IllegalArgumentException` if a book of the set does not exist";
     private static final String TOO_BROAD = "Throws `UnsupportedOperationException` if a cloth of the set is too broad";
 
     public static void main(String[] args) {
-        Sentences.ofPromises(Promises17To21Test.class, 17, 21, "Cloth.",
-            "Returns the least length of cloth for a set of books.",
-            "Returns the length of cloth for a set of books by fitting.",
-            "Returns in which strip the cloth of a book is put by fitting.", "Returns the number of strips by fitting.",
-            "Returns the share of the cloth that is wasted.");
+        Sentences.ofPromises(Promises17To21Test.class, 17, 21, "Cloth.");
+    }
+
+    /** Each set of the books of a planner with cloths: due is what is to be answered for the sets 0 to 15. */
+    private static void eachSet(String what, BiFunction<BindingPlanner, Integer, Object> call, Object... due) {
+        BindingPlanner x = Planners.withCloths();
+        for (int books = 0; books < 16; books++) {
+            int set = books;
+            Checks.same(what + " of the set " + set, String.valueOf(due[set]), Checks.answer(() -> call.apply(x, set)));
+        }
+        for (int set : new int[] {16, 31, 1 << 31, -1, -16, Refusals.MOST}) {
+            Checks.thrown(what + " of the set " + set, Refusals.ARGUMENT, () -> call.apply(x, set));
+        }
     }
 
     private static void refusesBooksThatDoNotExist(BiFunction<BindingPlanner, Integer, Object> call) {
@@ -54,6 +62,19 @@ public final class Promises17To21Test {
         Checks.is("first and last", 226, x.leastCloth(513));
     }
 
+    @Sentence(in = "Promise 17", says = "Returns the least length of cloth for a set of books.")
+    static void leastLengthOfEachSet() {
+        eachSet("least length", BindingPlanner::leastCloth, 0, 436, 426, 436, 416, 436, 426, 852, 136, 572, 426, 572,
+            552, 572, 562, 862);
+        BindingPlanner x = Planners.withCloths();
+        x.set(4, 1200);
+        Checks.is("a broader roll", 436 + 416, x.leastCloth(15));
+        x.set(4, 1300);
+        Checks.is("a still broader roll", 436 + 136, x.leastCloth(15));
+        x.set(4, 700);
+        Checks.is("a narrow roll", 436 + 426 + 416 + 136, x.leastCloth(15));
+    }
+
     @Sentence(in = "Promise 17", says = "Returns the least length, 0 for no books.")
     static void leastLengthFromNoBookToTenBooks() {
         Checks.is("no books of none", 0, new BindingPlanner().leastCloth(0));
@@ -83,6 +104,26 @@ public final class Promises17To21Test {
 
     // Promise 18: fittedCloth
 
+    @Sentence(in = "Promise 18", says = "Returns the length of cloth for a set of books by fitting.")
+    static void fittedLengthFollowsTheRoll() {
+        BindingPlanner x = Planners.withCloths();
+        int[][] due = {{700, 436 + 426 + 416 + 136}, {799, 436 + 426 + 416 + 136}, {800, 436 + 416 + 136},
+            {1199, 436 + 416 + 136}, {1200, 436 + 416}, {1299, 436 + 416}, {1300, 436 + 136}, {1500, 436 + 136}};
+        for (int[] d : due) {
+            x.set(4, d[0]);
+            Checks.is("roll of " + d[0], d[1], x.fittedCloth(15));
+        }
+        x.set(4, 1000);
+        x.setBlock(3, 0, 400);
+        Checks.is("the broadest is one of the longest", 436 + 436 + 416, x.fittedCloth(15));
+    }
+
+    @Sentence(in = "Promise 18", says = "- `books`: the set")
+    static void fittedLengthOfEachSet() {
+        eachSet("fitted length", BindingPlanner::fittedCloth, 0, 436, 426, 436, 416, 436, 426, 852, 136, 572, 426, 572,
+            552, 572, 562, 988);
+    }
+
     @Sentence(in = "Promise 18", says = "Returns the length.")
     static void fittedLengthFromNoBookToTenBooks() {
         Checks.is("no books of none", 0, new BindingPlanner().fittedCloth(0));
@@ -107,6 +148,47 @@ public final class Promises17To21Test {
     }
 
     // Promise 19: strip
+
+    /** The strips of the books 0 to 3 by fitting of the sets 0 to 15; "-" where a book is not in the set. */
+    private static final String[] STRIPS = {"----", "0---", "-0--", "00--", "--0-", "0-0-", "-00-", "001-", "---0", "0--1",
+        "-0-0", "00-1", "--01", "0-01", "-001", "0012"};
+
+    @Sentence(in = "Promise 19", says = "Returns in which strip the cloth of a book is put by fitting.")
+    static void stripsOfAllBooks() {
+        BindingPlanner x = Planners.withCloths();
+        int[][] due = {{700, 0, 1, 2, 3}, {800, 0, 0, 1, 2}, {1000, 0, 0, 1, 2}, {1200, 0, 0, 1, 1}, {1300, 0, 0, 0, 1}};
+        for (int[] d : due) {
+            x.set(4, d[0]);
+            for (int book = 0; book < 4; book++) {
+                Checks.is("book " + book + ", roll of " + d[0], d[1 + book], x.strip(15, book));
+            }
+        }
+    }
+
+    @Sentence(in = "Promise 19", says = "- `books`: the set")
+    static void stripOfEachSet() {
+        for (int each = 0; each < 4; each++) {
+            int book = each;
+            Object[] due = new Object[16];
+            for (int set = 0; set < 16; set++) {
+                char strip = STRIPS[set].charAt(book);
+                due[set] = strip == '-' ? "NoSuchElementException" : strip;
+            }
+            eachSet("strip of book " + book, (x, set) -> x.strip(set, book), due);
+        }
+    }
+
+    @Sentence(in = "Promise 19", says = "- `book`: the book")
+    static void stripOfEachBookOfTen() {
+        BindingPlanner x = TenBooks.made();
+        int[] due = {4, 3, 3, 3, 0, 1, 2, 2, 1, 0};
+        for (int book = 0; book < 10; book++) {
+            Checks.is("strip of book " + book, due[book], x.strip(1023, book));
+        }
+        for (int book : new int[] {-1, 10, 11, 31, 32, 41, Refusals.LEAST, Refusals.MOST}) {
+            Checks.thrown("no book " + book, Refusals.MISSING, () -> x.strip(1023, book));
+        }
+    }
 
     @Sentence(in = "Promise 19", says = "Returns the strip, from 0.")
     static void stripsFrom0To9() {
@@ -147,6 +229,22 @@ public final class Promises17To21Test {
 
     // Promise 20: strips
 
+    @Sentence(in = "Promise 20", says = "Returns the number of strips by fitting.")
+    static void numberOfStripsByFittingNotTheLeast() {
+        BindingPlanner x = Planners.withCloths();
+        Checks.is("three, where two are the least length", 3, x.strips(15));
+        int[][] due = {{700, 4}, {799, 4}, {800, 3}, {1199, 3}, {1200, 2}, {1500, 2}};
+        for (int[] d : due) {
+            x.set(4, d[0]);
+            Checks.is("roll of " + d[0], d[1], x.strips(15));
+        }
+    }
+
+    @Sentence(in = "Promise 20", says = "- `books`: the set")
+    static void numberOfStripsOfEachSet() {
+        eachSet("strips", BindingPlanner::strips, 0, 1, 1, 1, 1, 1, 1, 2, 1, 2, 1, 2, 2, 2, 2, 3);
+    }
+
     @Sentence(in = "Promise 20", says = "Returns the number.")
     static void numberOfStripsFrom0To10() {
         Checks.is("no books of none", 0, new BindingPlanner().strips(0));
@@ -173,6 +271,29 @@ public final class Promises17To21Test {
     }
 
     // Promise 21: clothWaste
+
+    @Sentence(in = "Promise 21", says = "Returns the share of the cloth that is wasted.")
+    static void wasteFollowsTheRoll() {
+        BindingPlanner x = Planners.withCloths();
+        double[][] due = {{700, 1414}, {1000, 862}, {1200, 852}, {1300, 572}, {1500, 572}};
+        for (double[] d : due) {
+            x.set(4, (int) d[0]);
+            Checks.isDouble("roll of " + d[0], 1.0 - 649000.0 / (d[0] * d[1]), x.clothWaste(15));
+        }
+    }
+
+    @Sentence(in = "Promise 21", says = "- `books`: the set")
+    static void wasteOfEachSet() {
+        double[] areas = {0, 218000, 127800, 345800, 208000, 426000, 335800, 553800, 95200, 313200, 223000, 441000,
+            303200, 521200, 431000, 649000};
+        double[] lengths = {0, 436, 426, 436, 416, 436, 426, 852, 136, 572, 426, 572, 552, 572, 562, 862};
+        Object[] due = new Object[16];
+        due[0] = "ArithmeticException";
+        for (int set = 1; set < 16; set++) {
+            due[set] = 1.0 - areas[set] / (1000 * lengths[set]);
+        }
+        eachSet("waste", BindingPlanner::clothWaste, due);
+    }
 
     @Sentence(in = "Promise 21", says = "Returns 1.0 minus the quotient of the areas of all cloths together, as a double, "
         + "and the area of the least length of the roll, as a double.")

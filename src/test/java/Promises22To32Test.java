@@ -1,17 +1,14 @@
 import java.util.List;
 import java.util.function.Consumer;
 
-/** Each sentence of the promises 22 to 32 (lots, prices, making) that names a boundary case. */
+/** Each sentence of the promises 22 to 32 (lots, prices, making). */
 public final class Promises22To32Test {
     private static final String NO_BOOK = "Throws `IndexOutOfBoundsException` if there is no such book";
     private static final String NO_MATERIAL = "Throws `IndexOutOfBoundsException` if there is no such material";
     private static final String RANGE = "Throws `IllegalArgumentException` if a number is out of range";
 
     public static void main(String[] args) {
-        Sentences.ofPromises(Promises22To32Test.class, 22, 32, "Lots, prices, making.", "Buys a lot.",
-            "Returns the units of a material in all lots.", "Returns a number of a lot.", "Drops a price.",
-            "Returns the list price of a material.", "Returns what a book costs by the list prices.", "Makes a book.",
-            "Lets days pass.", "Returns an account.");
+        Sentences.ofPromises(Promises22To32Test.class, 22, 32, "Lots, prices, making.");
     }
 
     private interface OfMaterial {
@@ -34,6 +31,77 @@ public final class Promises22To32Test {
     }
 
     // Promise 22: buy
+
+    private static void isLot(BindingPlanner x, int material, int index, int units, int price) {
+        Checks.is("units of lot " + index + " of material " + material, units, x.lot(material, index, false));
+        Checks.is("price of lot " + index + " of material " + material, price, x.lot(material, index, true));
+    }
+
+    @Sentence(in = "Promise 22", says = "Buys a lot.")
+    static void boughtLotIsKeptPaidAndUsed() {
+        BindingPlanner x = Planners.withBook();
+        x.buy(0, 2, 300);
+        isLot(x, 0, 0, 2, 300);
+        Checks.is("one lot", 1, x.account(6));
+        Checks.is("paid", 600, x.account(4));
+        Checks.is("worth", 600, x.account(5));
+        x.buy(1, 1, 20);
+        x.buy(2, 3, 7);
+        Checks.is("used by make", 600 + 20 + 21, x.make(0));
+        Checks.is("no lot is left", 0, x.account(6));
+        x.undo();
+        x.undo();
+        x.undo();
+        isLot(x, 0, 0, 2, 300);
+        x.undo();
+        Checks.is("no lot after the last undo", 0, x.account(6));
+        Checks.is("nor paid for", 0, x.account(4));
+    }
+
+    @Sentence(in = "Promise 22", says = "- `material`: the material")
+    static void buyOfEachMaterial() {
+        for (int bought = 0; bought < 3; bought++) {
+            BindingPlanner x = new BindingPlanner();
+            x.buy(bought, 5, 40);
+            for (int each = 0; each < 3; each++) {
+                int material = each;
+                Checks.is("units of " + material, material == bought ? 5 : 0, x.stock(material));
+            }
+            isLot(x, bought, 0, 5, 40);
+        }
+        BindingPlanner x = new BindingPlanner();
+        Checks.thrown("material 3", Refusals.INDEX, () -> x.buy(3, 5, 40));
+        Checks.thrown("material -1", Refusals.INDEX, () -> x.buy(-1, 5, 40));
+    }
+
+    @Sentence(in = "Promise 22", says = "- `units`: the units")
+    static void buyOfEachNumberOfUnits() {
+        for (int units = 1; units <= 999; units++) {
+            BindingPlanner x = new BindingPlanner();
+            x.buy(1, units, 9999);
+            isLot(x, 1, 0, units, 9999);
+        }
+        for (int units : new int[] {Refusals.LEAST, -1, 0, 1000, 9999, Refusals.MOST}) {
+            BindingPlanner x = new BindingPlanner();
+            Checks.thrown(units + " units", Refusals.ARGUMENT, () -> x.buy(1, units, 9999));
+            Checks.is("no lot", 0, x.account(6));
+        }
+    }
+
+    @Sentence(in = "Promise 22", says = "- `price`: the price for a unit")
+    static void buyAtAPriceForAUnit() {
+        for (int price : new int[] {1, 2, 10, 998, 999, 1000, 5000, 9998, 9999}) {
+            BindingPlanner x = new BindingPlanner();
+            x.buy(2, 999, price);
+            isLot(x, 2, 0, 999, price);
+            Checks.is("paid for all units", 999L * price, x.account(4));
+        }
+        for (int price : new int[] {Refusals.LEAST, -1, 0, 10000, Refusals.MOST}) {
+            BindingPlanner x = new BindingPlanner();
+            Checks.thrown("price " + price, Refusals.ARGUMENT, () -> x.buy(2, 999, price));
+            Checks.is("no lot", 0, x.account(6));
+        }
+    }
 
     @Sentence(in = "Promise 22", says = "Returns the number of lots of this material.")
     static void lotsOfAMaterialFrom1To30() {
@@ -79,6 +147,34 @@ public final class Promises22To32Test {
 
     // Promise 23: stock
 
+    @Sentence(in = "Promise 23", says = "Returns the units of a material in all lots.")
+    static void unitsOfAllLotsOfAMaterial() {
+        BindingPlanner x = Planners.withEnough();
+        x.buy(0, 7, 1);
+        x.buy(2, 1, 1);
+        x.buy(0, 999, 1);
+        Checks.is("three lots of board", 2 + 7 + 999, x.stock(0));
+        Checks.is("a lot of paper", 2, x.stock(1));
+        Checks.is("two lots of cloth", 25, x.stock(2));
+        x.make(0);
+        Checks.is("board after make", 1006, x.stock(0));
+        Checks.is("paper after make", 0, x.stock(1));
+        Checks.is("cloth after make", 1, x.stock(2));
+    }
+
+    @Sentence(in = "Promise 23", says = "- `material`: the material")
+    static void stockOfEachMaterial() {
+        BindingPlanner x = new BindingPlanner();
+        x.buy(2, 30, 1);
+        x.buy(1, 20, 1);
+        x.buy(0, 10, 1);
+        for (int material = 0; material < 3; material++) {
+            Checks.is("units of " + material, 10 * (material + 1), x.stock(material));
+        }
+        Checks.thrown("material 3", Refusals.INDEX, () -> x.stock(3));
+        Checks.thrown("material -1", Refusals.INDEX, () -> x.stock(-1));
+    }
+
     @Sentence(in = "Promise 23", says = "Returns the units.")
     static void unitsFromNoneTo30FullLots() {
         BindingPlanner x = new BindingPlanner();
@@ -99,6 +195,57 @@ public final class Promises22To32Test {
     }
 
     // Promise 24: lot
+
+    @Sentence(in = "Promise 24", says = "Returns a number of a lot.")
+    static void numbersOfLotsAsTheyAreUsed() {
+        BindingPlanner x = Planners.withBook();
+        x.buy(0, 1, 11);
+        x.buy(0, 5, 12);
+        x.buy(1, 5, 13);
+        x.buy(2, 5, 14);
+        isLot(x, 0, 0, 1, 11);
+        isLot(x, 0, 1, 5, 12);
+        x.make(0);
+        isLot(x, 0, 0, 4, 12);
+        isLot(x, 1, 0, 4, 13);
+        isLot(x, 2, 0, 2, 14);
+        Checks.thrown("the first went", Refusals.MISSING, () -> x.lot(0, 1, false));
+        x.undo();
+        isLot(x, 0, 0, 1, 11);
+        isLot(x, 0, 1, 5, 12);
+    }
+
+    @Sentence(in = "Promise 24", says = "- `material`: the material")
+    static void lotOfEachMaterial() {
+        BindingPlanner x = new BindingPlanner();
+        for (int lot = 1; lot <= 9; lot++) {
+            x.buy(2 - lot % 3, lot, 100 * lot);
+        }
+        for (int lot = 1; lot <= 9; lot++) {
+            isLot(x, 2 - lot % 3, (lot - 1) / 3, lot, 100 * lot);
+        }
+        for (int each = 0; each < 3; each++) {
+            int material = each;
+            Checks.thrown("no fourth lot of " + material, Refusals.MISSING, () -> x.lot(material, 3, true));
+        }
+        Checks.thrown("material 3", Refusals.INDEX, () -> x.lot(3, 0, true));
+        Checks.thrown("material -1", Refusals.INDEX, () -> x.lot(-1, 0, false));
+    }
+
+    @Sentence(in = "Promise 24", says = "- `isPrice`: whether the price is asked for, and not the units")
+    static void priceOnlyWhereItIsAskedFor() {
+        BindingPlanner x = new BindingPlanner();
+        x.buy(1, 40, 50);
+        x.buy(1, 60, 70);
+        Checks.is("price", 50, x.lot(1, 0, true));
+        Checks.is("units", 40, x.lot(1, 0, false));
+        Checks.is("price of the second", 70, x.lot(1, 1, true));
+        Checks.is("units of the second", 60, x.lot(1, 1, false));
+        for (boolean isPrice : new boolean[] {false, true}) {
+            Checks.thrown("no third lot", Refusals.MISSING, () -> x.lot(1, 2, isPrice));
+            Checks.thrown("no material 3", Refusals.INDEX, () -> x.lot(3, 0, isPrice));
+        }
+    }
 
     @Sentence(in = "Promise 24", says = "- `index`: the index of the lot, from 0 for the first one")
     static void firstAndLastLot() {
@@ -156,6 +303,22 @@ public final class Promises22To32Test {
         x.setPrice(2, 6, 40);
         Checks.is("another material stays", 20, x.price(1, 6));
         Checks.is("three", 3, x.account(7));
+    }
+
+    @Sentence(in = "Promise 25", says = "- `material`: the material")
+    static void setPriceOfEachMaterial() {
+        for (int set = 0; set < 3; set++) {
+            BindingPlanner x = new BindingPlanner();
+            x.setPrice(set, 5, 60);
+            for (int each = 0; each < 3; each++) {
+                int material = each;
+                Checks.same("price of " + material, material == set ? "60" : "NoSuchElementException",
+                    Checks.answer(() -> x.price(material, 5)));
+            }
+        }
+        BindingPlanner x = new BindingPlanner();
+        Checks.thrown("material 3", Refusals.INDEX, () -> x.setPrice(3, 5, 60));
+        Checks.thrown("material -1", Refusals.INDEX, () -> x.setPrice(-1, 5, 60));
     }
 
     @Sentence(in = "Promise 25", says = "- `day`: the day, 0 to 9999")
@@ -224,6 +387,41 @@ public final class Promises22To32Test {
 
     // Promise 26: dropPrice
 
+    @Sentence(in = "Promise 26", says = "Drops a price.")
+    static void priceBeforeItHoldsAgain() {
+        BindingPlanner x = new BindingPlanner();
+        x.setPrice(1, 3, 30);
+        x.setPrice(1, 7, 70);
+        x.setPrice(1, 5, 50);
+        Checks.is("the middle one", 50, x.dropPrice(1, 5));
+        Checks.is("the first one holds on its day", 30, x.price(1, 5));
+        Checks.is("the last one stays", 70, x.price(1, 7));
+        Checks.thrown("it cannot be dropped twice", Refusals.MISSING, () -> x.dropPrice(1, 5));
+        Checks.is("the first one", 30, x.dropPrice(1, 3));
+        Checks.thrown("nothing holds the day before the last one", Refusals.MISSING, () -> x.price(1, 6));
+        x.undo();
+        x.undo();
+        Checks.is("the middle one is back", 50, x.price(1, 6));
+    }
+
+    @Sentence(in = "Promise 26", says = "- `material`: the material")
+    static void dropPriceOfEachMaterial() {
+        for (int dropped = 0; dropped < 3; dropped++) {
+            BindingPlanner x = new BindingPlanner();
+            for (int material = 0; material < 3; material++) {
+                x.setPrice(material, 5, 60 + material);
+            }
+            Checks.is("dropped", 60 + dropped, x.dropPrice(dropped, 5));
+            for (int each = 0; each < 3; each++) {
+                int material = each;
+                Checks.same("price of " + material, material == dropped ? "NoSuchElementException" : "" + (60 + material),
+                    Checks.answer(() -> x.price(material, 5)));
+            }
+            Checks.thrown("material 3", Refusals.INDEX, () -> x.dropPrice(3, 5));
+            Checks.thrown("material -1", Refusals.INDEX, () -> x.dropPrice(-1, 5));
+        }
+    }
+
     @Sentence(in = "Promise 26", says = "- `day`: the day from which it is")
     static void daysBesideThatOfAPrice() {
         BindingPlanner x = Planners.withTwentyPrices();
@@ -287,6 +485,38 @@ public final class Promises22To32Test {
 
     // Promise 27: price
 
+    @Sentence(in = "Promise 27", says = "Returns the list price of a material.")
+    static void listPriceOfEachDay() {
+        BindingPlanner x = new BindingPlanner();
+        x.setPrice(0, 4, 40);
+        x.setPrice(0, 2, 90);
+        x.setPrice(0, 8, 10);
+        int[] due = {90, 90, 40, 40, 40, 40, 10, 10};
+        for (int day = 2; day < 10; day++) {
+            Checks.is("day " + day, due[day - 2], x.price(0, day));
+        }
+        x.pass(999);
+        Checks.is("whatever the day is", 90, x.price(0, 3));
+        x.buy(0, 5, 77);
+        Checks.is("whatever the lots cost", 90, x.price(0, 3));
+    }
+
+    @Sentence(in = "Promise 27", says = "- `material`: the material")
+    static void priceOfEachMaterial() {
+        BindingPlanner x = new BindingPlanner();
+        for (int material = 2; material >= 0; material--) {
+            x.setPrice(material, 6 - material, 60 + material);
+            x.setPrice(material, 10, 70 + material);
+        }
+        for (int material = 0; material < 3; material++) {
+            Checks.is("early, material " + material, 60 + material, x.price(material, 9));
+            Checks.is("late, material " + material, 70 + material, x.price(material, 10));
+        }
+        Checks.thrown("board on the day of paper", Refusals.MISSING, () -> x.price(0, 5));
+        Checks.thrown("material 3", Refusals.INDEX, () -> x.price(3, 9));
+        Checks.thrown("material -1", Refusals.INDEX, () -> x.price(-1, 9));
+    }
+
     @Sentence(in = "Promise 27", says = "- `day`: the day, any int")
     static void priceOfTheLeastAndTheGreatestInt() {
         BindingPlanner x = new BindingPlanner();
@@ -334,6 +564,49 @@ public final class Promises22To32Test {
         x.setPrice(1, 0, 10);
         x.setPrice(2, 5, 1);
         return x;
+    }
+
+    @Sentence(in = "Promise 28", says = "Returns what a book costs by the list prices.")
+    static void costByTheListPricesNotByTheLots() {
+        BindingPlanner x = withPrices();
+        x.setBlock(0, 3, 10);
+        Checks.is("without lots", 2 * 100 + 2 * 10 + 24, x.cost(0, 7));
+        x.buy(0, 50, 9000);
+        x.buy(1, 50, 9000);
+        x.buy(2, 50, 9000);
+        Checks.is("with dear lots", 244, x.cost(0, 7));
+        x.make(0);
+        Checks.is("after make", 244, x.cost(0, 7));
+        x.pass(5);
+        Checks.is("whatever the day is", 244, x.cost(0, 7));
+        x.setPrice(2, 6, 1000);
+        Checks.is("dearer cloth", 220 + 24000, x.cost(0, 7));
+    }
+
+    @Sentence(in = "Promise 28", says = "- `book`: the book")
+    static void costOfEachBookOfTen() {
+        TenBooks.each("cost", (x, book) -> {
+            x.setPrice(0, 0, 1);
+            x.setPrice(1, 0, 100);
+            x.setPrice(2, 0, 9999);
+            return x.cost(book, 0);
+        }, 20100, 100092, 220180, 370366, 540550, 750631, 982010, 1252285, 1553962, 1874439);
+    }
+
+    @Sentence(in = "Promise 28", says = "- `day`: the day")
+    static void costOfEachDay() {
+        BindingPlanner x = withPrices();
+        x.setPrice(0, 9, 200);
+        x.setPrice(1, 10, 20);
+        x.setPrice(2, 9999, 5);
+        int[] days = {7, 8, 9, 10, 11, 9998, 9999, 10000, Refusals.MOST};
+        int[] due = {213, 213, 413, 423, 423, 423, 435, 435, 435};
+        for (int each = 0; each < days.length; each++) {
+            Checks.is("day " + days[each], due[each], x.cost(0, days[each]));
+        }
+        for (int day : new int[] {6, 5, 0, -1, Refusals.LEAST}) {
+            Checks.thrown("day " + day, Refusals.MISSING, () -> x.cost(0, day));
+        }
     }
 
     @Sentence(in = "Promise 28", says = "Returns the cost.")
@@ -401,6 +674,38 @@ public final class Promises22To32Test {
     }
 
     // Promise 29: make
+
+    @Sentence(in = "Promise 29", says = "Makes a book.")
+    static void madeBookUsesUnitsAndCounts() {
+        BindingPlanner x = Planners.withEnough();
+        x.buy(2, 5, 9);
+        Checks.is("cost", 2 * 100 + 2 * 30 + 24 * 7, x.make(0));
+        long[] due = {0, 1, 10, 428, 473, 45, 1, 0, 2, 2, 24};
+        for (int what = 0; what <= 10; what++) {
+            Checks.is("account " + what, due[what], x.account(what));
+        }
+        Checks.is("units of cloth that are left", 5, x.stock(2));
+    }
+
+    @Sentence(in = "Promise 29", says = "- `book`: the book")
+    static void makeOfEachBookOfTen() {
+        int[] due = {2102, 10102, 22202, 37403, 54604, 75706, 100108, 127410, 159117, 191626};
+        BindingPlanner x = TenBooks.made();
+        x.buy(0, 999, 1);
+        x.buy(1, 999, 100);
+        x.buy(2, 999, 1000);
+        int copies = 0;
+        for (int book = 0; book < 10; book++) {
+            Checks.is("cost of book " + book, due[book], x.make(book));
+            copies += 1 + 5 * book;
+            Checks.is("copies made", copies, x.account(2));
+        }
+        Checks.thrown("book 10", Refusals.INDEX, () -> x.make(10));
+        Checks.thrown("book -1", Refusals.INDEX, () -> x.make(-1));
+        Checks.is("board used", 80, x.account(8));
+        Checks.is("paper used", 153, x.account(9));
+        Checks.is("cloth used", 765, x.account(10));
+    }
 
     @Sentence(in = "Promise 29", says = "Returns what the units that are used cost by the prices of their lots.")
     static void costOverTheLotsThatAreUsed() {
@@ -519,6 +824,18 @@ public final class Promises22To32Test {
 
     // Promise 31: pass
 
+    @Sentence(in = "Promise 31", says = "Lets days pass.")
+    static void daysAddUp() {
+        BindingPlanner x = Planners.withEnough();
+        Checks.is("five", 5, x.pass(5));
+        Checks.is("and one", 6, x.pass(1));
+        Checks.is("and 300", 306, x.pass(300));
+        Checks.is("account of the day", 306, x.account(0));
+        x.undo();
+        Checks.is("account of the day after undo", 6, x.account(0));
+        Checks.is("nothing else changes", 2, x.stock(0));
+    }
+
     @Sentence(in = "Promise 31", says = "- `days`: the number of days, 1 to 999")
     static void fewestAndMostDays() {
         BindingPlanner x = new BindingPlanner();
@@ -565,7 +882,17 @@ public final class Promises22To32Test {
 
     // Promise 32: account
 
-    @Sentence(in = "Promise 32", says = "0 for the day, 1 for the books that are kept, 2 for the copies made, 3 for the "
+    @Sentence(in = "Promise 32", says = "Returns an account.")
+    static void accountsOfABusyPlanner() {
+        BindingPlanner x = Planners.busy();
+        long[] due = {12, 2, 10, 428, 428 + 36 + 24, 36 + 24, 2, 2, 2, 2, 24};
+        for (int what = 0; what <= 10; what++) {
+            Checks.is("account " + what, due[what], x.account(what));
+            Checks.is("account " + what + " again", due[what], x.account(what));
+        }
+    }
+
+    @Sentence(in = "Promise 32", says = "- `what`: 0 for the day, 1 for the books that are kept, 2 for the copies made, 3 for the "
         + "cost of all that was made, 4 for what was paid for all lots, 5 for the worth of all lots that are kept, by "
         + "their units and prices, 6 for the lots and 7 for the prices that are kept, 8 to 10 for the units of material "
         + "0 to 2 that were used")

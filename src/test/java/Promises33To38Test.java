@@ -1,7 +1,7 @@
 import java.util.function.Consumer;
 import java.util.function.Supplier;
 
-/** Each sentence of the promises 33 to 38 (texts, undo and snapshot) that names a boundary case. */
+/** Each sentence of the promises 33 to 38 (texts, undo and snapshot). */
 public final class Promises33To38Test {
     public static void main(String[] args) {
         Sentences.ofPromises(Promises33To38Test.class, 33, 38, "Texts, undo and snapshot.");
@@ -31,6 +31,17 @@ public final class Promises33To38Test {
             x.append('8');
             x.append(sign);
             hasFault(x, "", 1);
+        }
+    }
+
+    @Sentence(in = "Promise 33", says = "- `c`: the character")
+    static void eachCharacter() {
+        for (int c = 0; c <= 0xFFFF; c++) {
+            BindingPlanner x = new BindingPlanner();
+            x.append((char) c);
+            boolean canBegin = c >= '1' && c <= '9';
+            Checks.thrown("character " + c, Refusals.ARGUMENT, x::readBook);
+            Checks.is("fault of character " + c, canBegin ? 1 : 0, x.faultPosition());
         }
     }
 
@@ -172,6 +183,17 @@ public final class Promises33To38Test {
         Checks.thrown("wrong call of addBook", Refusals.ARGUMENT, () -> x.addBook(0, 0, 0));
         Checks.is("stays over other calls", 1, x.faultPosition());
         hasFault(x, "1".repeat(40), 3);
+    }
+
+    @Sentence(in = "Promise 35", says = "Returns the fault position, or -1")
+    static void faultPositionsFromMinus1To14() {
+        String text = "100x100x100*10";
+        BindingPlanner x = new BindingPlanner();
+        for (int fault = 0; fault <= 14; fault++) {
+            hasFault(x, text.substring(0, fault) + "!", fault);
+        }
+        hasFault(x, text, -1);
+        hasFault(x, "", 0);
     }
 
     @Sentence(in = "Promise 35", says = "or -1 if the text had no fault")

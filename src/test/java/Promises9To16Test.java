@@ -1,11 +1,7 @@
-/** Each sentence of the promises 9 to 16 (grain, stations) that names a boundary case. */
+/** Each sentence of the promises 9 to 16 (grain, stations). */
 public final class Promises9To16Test {
     public static void main(String[] args) {
-        Sentences.ofPromises(Promises9To16Test.class, 9, 16, "Grain, stations.", "Sets the sheets of a material.",
-            "Returns the number.", "Returns the yield of a sheet for a piece that is cut from sheets.",
-            "Returns the units of a material that all copies of a book need.",
-            "Returns the share of its sheets that the boards of a book use.", "Returns where a station of a block is.",
-            "Returns the distance.");
+        Sentences.ofPromises(Promises9To16Test.class, 9, 16, "Grain, stations.");
     }
 
     // Promise 9: setSheet
@@ -21,6 +17,63 @@ public final class Promises9To16Test {
             Checks.is("length of the other one", 1000, x.sheet(1 - material, 0));
             Checks.is("breadth of the other one", 700, x.sheet(1 - material, 1));
             Checks.is("grain of the other one", 1, x.sheet(1 - material, 2));
+        }
+    }
+
+    @Sentence(in = "Promise 9", says = "Sets the sheets of a material.")
+    static void sheetsChangeTheYields() {
+        BindingPlanner x = Planners.withBook();
+        x.setSheet(0, 412, 405, 1);
+        Checks.is("boards from a smaller sheet", 6, x.perSheet(0, 0));
+        Checks.is("spine strips from it", 32, x.perSheet(0, 2));
+        Checks.is("endpapers as before", 10, x.perSheet(0, 4));
+        x.setSheet(1, 600, 560, 1);
+        Checks.is("endpapers from a smaller sheet", 6, x.perSheet(0, 4));
+        Checks.is("boards as before", 6, x.perSheet(0, 0));
+        x.setSheet(0, 1200, 1200, 0);
+        Checks.is("boards from the greatest sheet", 40, x.perSheet(0, 0));
+        Checks.is("a book that comes later", 1, x.addBook(200, 140, 20));
+        Checks.is("is cut from the same sheets", 40, x.perSheet(1, 0));
+    }
+
+    private static void isSheet(int length, int breadth, int grain) {
+        for (int material = 0; material <= 1; material++) {
+            BindingPlanner x = new BindingPlanner();
+            x.setSheet(material, length, breadth, grain);
+            Checks.is("length", length, x.sheet(material, 0));
+            Checks.is("breadth", breadth, x.sheet(material, 1));
+            Checks.is("grain", grain, x.sheet(material, 2));
+        }
+    }
+
+    private static void isNoSheet(int length, int breadth, int grain) {
+        for (int each = 0; each <= 1; each++) {
+            int material = each;
+            BindingPlanner x = new BindingPlanner();
+            Checks.thrown(length + " x " + breadth, Refusals.ARGUMENT,
+                () -> x.setSheet(material, length, breadth, grain));
+            Checks.is("length stays", 1000, x.sheet(material, 0));
+            Checks.is("breadth stays", 700, x.sheet(material, 1));
+        }
+    }
+
+    @Sentence(in = "Promise 9", says = "- `length`: the length")
+    static void setSheetOfEachLength() {
+        for (int length = 100; length <= 1200; length++) {
+            isSheet(length, 100, 0);
+        }
+        for (int length : new int[] {Refusals.LEAST, -100, 0, 2, 99, 1201, Refusals.MOST}) {
+            isNoSheet(length, 100, 0);
+        }
+    }
+
+    @Sentence(in = "Promise 9", says = "- `breadth`: the breadth")
+    static void setSheetOfEachBreadth() {
+        for (int breadth = 100; breadth <= 1200; breadth++) {
+            isSheet(1200, breadth, 2);
+        }
+        for (int breadth : new int[] {Refusals.LEAST, -100, 0, 2, 99, 1201, Refusals.MOST}) {
+            isNoSheet(1200, breadth, 2);
         }
     }
 
@@ -100,6 +153,23 @@ public final class Promises9To16Test {
         Checks.is("grain", 1, x.sheet(0, 2));
     }
 
+    @Sentence(in = "Promise 10", says = "Returns the number.")
+    static void numberOfTheSheetsNow() {
+        for (int material = 0; material <= 1; material++) {
+            BindingPlanner x = new BindingPlanner();
+            x.setSheet(material, 1200, 100, 0);
+            x.setSheet(material, 100, 1200, 2);
+            int[] due = {100, 1200, 2, 1200, 100, 0, 1000, 700, 1};
+            for (int number = 0; number < 9; number++) {
+                Checks.is("number " + number % 3 + " after undos: " + number / 3, due[number],
+                    x.sheet(material, number % 3));
+                if (number % 3 == 2 && number < 8) {
+                    x.undo();
+                }
+            }
+        }
+    }
+
     @Sentence(in = "Promise 10", says = "Throws `IndexOutOfBoundsException` if material is neither 0 nor 1")
     static void sheetOfNoSuchMaterial() {
         Refusals.leaves(Refusals.INDEX, Planners::busy, x -> x.sheet(2, 0), x -> x.sheet(-1, 0),
@@ -113,6 +183,26 @@ public final class Promises9To16Test {
     }
 
     // Promise 11: perSheet
+
+    @Sentence(in = "Promise 11", says = "Returns the yield of a sheet for a piece that is cut from sheets.")
+    static void yieldOfTheSheetOfThePiece() {
+        BindingPlanner x = Planners.withBook();
+        x.setSheet(0, 500, 600, 0);
+        x.setSheet(1, 600, 900, 2);
+        Checks.is("front board: 2 x 4 or 2 x 3", 8, x.perSheet(0, 0));
+        Checks.is("back board", 8, x.perSheet(0, 1));
+        Checks.is("spine strip: 2 x 25 or 2 x 20", 50, x.perSheet(0, 2));
+        Checks.is("endpaper: 4 x 2", 8, x.perSheet(0, 4));
+        x.setBlock(0, 3, 50);
+        Checks.is("whatever the copies", 8, x.perSheet(0, 4));
+    }
+
+    @Sentence(in = "Promise 11", says = "- `book`: the book")
+    static void perSheetOfEachBookOfTen() {
+        TenBooks.each("boards", (x, book) -> x.perSheet(book, 0), 90, 56, 36, 25, 16, 12, 9, 9, 6, 4);
+        TenBooks.each("spine strips", (x, book) -> x.perSheet(book, 2), 630, 266, 156, 100, 64, 42, 36, 30, 18, 16);
+        TenBooks.each("endpapers", (x, book) -> x.perSheet(book, 4), 50, 21, 18, 10, 8, 8, 3, 3, 2, 2);
+    }
 
     @Sentence(in = "Promise 11", says = "- `piece`: the piece, 0, 1, 2 or 4")
     static void perSheetOfEachPiece() {
@@ -160,6 +250,28 @@ public final class Promises9To16Test {
     }
 
     // Promise 12: needed
+
+    @Sentence(in = "Promise 12", says = "Returns the units of a material that all copies of a book need.")
+    static void unitsOfAllCopies() {
+        BindingPlanner x = Planners.withBook();
+        int[][] due = {{1, 2, 1, 3}, {2, 2, 1, 5}, {5, 2, 1, 12}, {6, 2, 2, 15}, {10, 2, 2, 24}, {11, 3, 3, 26},
+            {50, 6, 10, 118}};
+        for (int[] d : due) {
+            x.setBlock(0, 3, d[0]);
+            for (int material = 0; material < 3; material++) {
+                Checks.is("material " + material + " for " + d[0] + " copies", d[1 + material], x.needed(0, material));
+            }
+        }
+        x.buy(0, 999, 1);
+        Checks.is("whatever is there", 6, x.needed(0, 0));
+    }
+
+    @Sentence(in = "Promise 12", says = "- `book`: the book")
+    static void neededOfEachBookOfTen() {
+        TenBooks.each("board", (x, book) -> x.needed(book, 0), 2, 2, 2, 3, 4, 6, 8, 10, 17, 26);
+        TenBooks.each("paper", (x, book) -> x.needed(book, 1), 1, 1, 2, 4, 6, 7, 21, 24, 41, 46);
+        TenBooks.each("cloth", (x, book) -> x.needed(book, 2), 2, 10, 22, 37, 54, 75, 98, 125, 155, 187);
+    }
 
     @Sentence(in = "Promise 12", says = "- `material`: the material, 0 to 2")
     static void neededOfEachMaterial() {
@@ -243,6 +355,27 @@ public final class Promises9To16Test {
 
     // Promise 13: boardShare
 
+    @Sentence(in = "Promise 13", says = "Returns the share of its sheets that the boards of a book use.")
+    static void shareFollowsCopiesAndSheets() {
+        BindingPlanner x = Planners.withBook();
+        Checks.isDouble("one copy", 55620.0 / 700000.0, x.boardShare(0));
+        x.setBlock(0, 3, 10);
+        Checks.isDouble("ten copies fill a sheet", 556200.0 / 700000.0, x.boardShare(0));
+        x.setBlock(0, 3, 11);
+        Checks.isDouble("eleven begin another one", 611820.0 / 1400000.0, x.boardShare(0));
+        x.setSheet(0, 1030, 675, 1);
+        Checks.isDouble("25 of a sheet without waste", 22 * 27810.0 / 695250.0, x.boardShare(0));
+        x.setSheet(1, 100, 100, 0);
+        Checks.isDouble("whatever the paper", 22 * 27810.0 / 695250.0, x.boardShare(0));
+    }
+
+    @Sentence(in = "Promise 13", says = "- `book`: the book")
+    static void boardShareOfEachBookOfTen() {
+        TenBooks.each("share", (x, book) -> x.boardShare(book), 13780.0 / 700000.0, 138720.0 / 700000.0,
+            383460.0 / 700000.0, 784000.0 / 1400000.0, 1376340.0 / 2100000.0, 2196480.0 / 3500000.0,
+            3280420.0 / 4900000.0, 4664160.0 / 5600000.0, 6383700.0 / 9800000.0, 8475040.0 / 16100000.0);
+    }
+
     @Sentence(in = "Promise 13", says = "Returns the areas of all boards of all copies together, without the spine "
         + "strips, divided by that of the sheets needed for them, both as doubles.")
     static void shareOfFullAndOfEmptySheets() {
@@ -297,6 +430,25 @@ public final class Promises9To16Test {
         return x;
     }
 
+    @Sentence(in = "Promise 14", says = "- `book`: the book")
+    static void tapesOfEachBookOfTen() {
+        TenBooks.each("tapes", (x, book) -> x.tapes(book), 2, 2, 3, 3, 4, 4, 5, 5, 6, 6);
+    }
+
+    @Sentence(in = "Promise 14", says = "Returns the number.")
+    static void numberOfTapesFollowsTheHeightAlone() {
+        BindingPlanner x = withHeight(200);
+        Checks.is("just 4", 4, x.tapes(0));
+        x.setBlock(0, 1, 300);
+        x.setBlock(0, 2, 80);
+        x.setBlock(0, 3, 50);
+        Checks.is("whatever the other numbers", 4, x.tapes(0));
+        x.setBlock(0, 0, 199);
+        Checks.is("a millimetre lower", 3, x.tapes(0));
+        x.undo();
+        Checks.is("as high as before", 4, x.tapes(0));
+    }
+
     @Sentence(in = "Promise 14", says = "Returns the number of tapes of a block.")
     static void tapesFrom2To7() {
         Checks.is("least height", 2, withHeight(80).tapes(0));
@@ -317,6 +469,29 @@ public final class Promises9To16Test {
     }
 
     // Promise 15: station
+
+    @Sentence(in = "Promise 15", says = "Returns where a station of a block is.")
+    static void stationsOfABlock() {
+        BindingPlanner x = withHeight(250);
+        int[] due = {12, 57, 102, 147, 192, 238};
+        for (int station = 0; station < 6; station++) {
+            Checks.is("station " + station, due[station], x.station(0, station));
+        }
+        x.setBlock(0, 0, 130);
+        int[] dueThen = {12, 47, 82, 118};
+        for (int station = 0; station < 4; station++) {
+            Checks.is("station " + station + " of a lower block", dueThen[station], x.station(0, station));
+        }
+        Checks.thrown("no station 4 of a lower block", Refusals.MISSING, () -> x.station(0, 4));
+    }
+
+    @Sentence(in = "Promise 15", says = "- `book`: the book")
+    static void stationOfEachBookOfTen() {
+        TenBooks.each("lower kettle stitch", (x, book) -> x.station(book, 0), 12, 12, 12, 12, 12, 12, 12, 12, 12, 12);
+        TenBooks.each("first tape", (x, book) -> x.station(book, 1), 37, 47, 46, 53, 51, 57, 54, 59, 57, 61);
+        TenBooks.each("second tape", (x, book) -> x.station(book, 2), 62, 82, 80, 95, 90, 102, 97, 107, 102, 110);
+        TenBooks.each("station 3", (x, book) -> x.station(book, 3), 88, 118, 114, 136, 129, 147, 140, 155, 147, 160);
+    }
 
     @Sentence(in = "Promise 15", says = "- `station`: the station, from 0")
     static void stationsFrom0To8() {
@@ -354,6 +529,26 @@ public final class Promises9To16Test {
     }
 
     // Promise 16: widestGap
+
+    @Sentence(in = "Promise 16", says = "- `book`: the book")
+    static void widestGapOfEachBookOfTen() {
+        TenBooks.each("widest gap", (x, book) -> x.widestGap(book), 26, 36, 34, 42, 40, 46, 43, 48, 46, 50);
+    }
+
+    @Sentence(in = "Promise 16", says = "Returns the distance.")
+    static void distanceOfEachHeight() {
+        for (int height = 80; height <= 400; height++) {
+            BindingPlanner x = withHeight(height);
+            int last = x.tapes(0) + 1;
+            int widest = 0;
+            for (int station = 0; station < last; station++) {
+                widest = Math.max(widest, x.station(0, station + 1) - x.station(0, station));
+            }
+            Checks.is("between the stations at height " + height, widest, x.widestGap(0));
+        }
+        Checks.is("the least of all", 19, withHeight(81).widestGap(0));
+        Checks.is("the greatest of all", 51, withHeight(379).widestGap(0));
+    }
 
     @Sentence(in = "Promise 16", says = "Returns the greatest distance between neighboring stations of a block.")
     static void gapsOfEqualAndOfUnequalStations() {
