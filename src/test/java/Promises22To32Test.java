@@ -892,8 +892,8 @@ public final class Promises22To32Test {
         }
     }
 
-    @Sentence(in = "Promise 32", says = "- `what`: 0 for the day, 1 for the books that are kept, 2 for the copies made, 3 for the "
-        + "cost of all that was made, 4 for what was paid for all lots, 5 for the worth of all lots that are kept, by "
+    @Sentence(in = "Promise 32", says = "- `what`: 0 for the day, 1 for the books that are kept, 2 for the copies made, "
+        + "3 for the cost of all that was made, 4 for what was paid for all lots, 5 for the worth of all lots that are kept, by "
         + "their units and prices, 6 for the lots and 7 for the prices that are kept, 8 to 10 for the units of material "
         + "0 to 2 that were used")
     static void eachAccountOfAnEmptyAndOfAFullPlanner() {
